@@ -976,13 +976,18 @@ public final class EndTooLong {
 
         int valueFor(Hanging hung, int b) {
             top = 0;
+            boolean counts = true;
             for (int i = 0; i < size; i++) {
                 int code = codes[i];
                 if (code == LINE_ENDS) {
-                    return pop();
-                }
-                if (code == -'?') {
-                    i = pop() != 0 ? i : lineEnd(i);
+                    if (counts) {
+                        return pop();
+                    }
+                    counts = true;
+                } else if (!counts) {
+                    continue;
+                } else if (code == -'?') {
+                    counts = pop() != 0;
                 } else if (code >= 0) {
                     push(code);
                 } else if (Reader.isName(-code)) {
@@ -995,14 +1000,6 @@ public final class EndTooLong {
                 }
             }
             return 0;
-        }
-
-        private int lineEnd(int from) {
-            int i = from;
-            while (i < size && codes[i] != LINE_ENDS) {
-                i++;
-            }
-            return i;
         }
 
         private static int turned(int code, int value) {

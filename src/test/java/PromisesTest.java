@@ -130,6 +130,11 @@ public final class PromisesTest {
         due(x.count(0), 8);
         due(x.of(7, 1), 3);
         due(x.count(3), 0);
+        EndTooLong y = new EndTooLong();
+        shorts(y, 0, 60, 1, 1, 60, 2, 1);
+        due(y.ties(0, 4, 1), 0);
+        due(y.ties(0, 3, 1), 1);
+        due(y.ties(0, 0, 8), 2);
     }
 
     private void promise4() {
@@ -193,6 +198,7 @@ public final class PromisesTest {
         due(x.of(0, 9), BAD);
         due(x.of(0, 12), BAD);
         x.tie(77, 6);
+        x.tier(11, 0);
         due(x.of(0, 0), 77);
         due(x.of(0, 1), 6);
         due(x.of(0, 12), 0);
@@ -298,6 +304,8 @@ public final class PromisesTest {
         fault("-!(-!(-t", 6);
         fault("!(!(!(t)-!!!!s", 11);
         fault("t+K", 2);
+        fault("1?!!!!!!!t", 8);
+        fault("t;1?(t;", 6);
         fault("1(", 1);
         fault("(1)(", 3);
         fault("(1)2", 3);
@@ -332,6 +340,10 @@ public final class PromisesTest {
         gives("3|0", 1);
         gives("0|0", 0);
         gives("3&5", 1);
+        gives("1&1", 1);
+        gives("1?0|1", 1);
+        gives("1?!!!!!!t", 1);
+        gives("1|0?1<2;9", 1);
         gives("3&0", 0);
         gives("0&0|1", 1);
         gives("1|0&0", 1);
@@ -454,6 +466,23 @@ public final class PromisesTest {
         x.mend(0, 2, 0);
         x.mend(0, 4, 9);
         due(x.hangs(0, 100, 3), 2);
+        eightTies();
+    }
+
+    private void eightTies() {
+        EndTooLong x = new EndTooLong();
+        for (int tie = 0; tie < 8; tie++) {
+            x.tie(100 + tie, 1 + tie);
+        }
+        for (int tie = 0; tie < 8; tie++) {
+            for (int knot = 0; knot < 5; knot++) {
+                due(x.hangs(10 * tie + knot, 50, 3), (1 + tie) * (2 * knot + 2));
+                due(x.hangs(10 * tie + knot, 50, 1), 12 + tie);
+                due(x.tieOn(10 * tie + knot, 50), 50 - (1 + tie) * (2 * knot + 2));
+            }
+            due(x.of(tie, 12), 5);
+        }
+        due(x.hangs(80, 50, 3), VOID);
     }
 
     private void promise10() {
@@ -497,6 +526,15 @@ public final class PromisesTest {
         x.mend(0, 5, 9);
         due(x.knot(0, 0), 0);
         due(x.knot(0, 1), 0);
+        // RIGHT by one b alone, and by one TURN alone.
+        tell(x, "k=1?0;60");
+        x.mend(3, 5, 1);
+        x.mend(0, 8, 0);
+        x.mend(0, 0, 137);
+        x.mend(0, 6, 60);
+        due(x.where(3, 1), 1);
+        due(x.knot(0, 0), 3);
+        due(x.knot(0, 1), 3);
         x.mend(0, 0, 40);
         due(x.knot(0, 0), NOT);
         due(x.knot(0, 1), NOT);
@@ -564,6 +602,11 @@ public final class PromisesTest {
         x.mend(0, 8, 0);
         tell(x, "b=60?0;b=55?5;20");
         due(x.share(0, 60), 2);
+        // From 62 on 59 is reached by a fourth of the way, 60 by a fifth (no SHARE); all else runs up beyond 90.
+        tell(x, "b=62?0;b=59?9;60");
+        due(x.share(0, 62), 4);
+        tell(x, "b=62?0;b=60?10;60");
+        due(x.share(0, 62), NOT);
         due(x.share(0, 201), BAD);
         due(x.share(0, -1), BAD);
         x.mend(0, 0, 40);
@@ -649,6 +692,12 @@ public final class PromisesTest {
         tell(x, "n=40|n=45?12;n>45?60;0");
         due(x.fit(4, 0), 40);
         due(x.fit(4, 1), 45);
+        tell(x, "n=60?12;n<45?0;60");
+        due(x.fit(4, 0), 60);
+        due(x.fit(4, 1), 60);
+        tell(x, "n=20?40;n<45?0;60");
+        due(x.fit(4, 0), 20);
+        due(x.fit(4, 1), 20);
     }
 
     private void promise18() {
@@ -816,6 +865,38 @@ public final class PromisesTest {
         bytes(y, 0, 0, 1, 2, 3, 4, 5);
         due(y.order(0, 0, -1), STATE);
         due(y.six(0, 0, -1), NOT);
+        deepOrder();
+    }
+
+    /**
+     * Tie i takes i + 1 tries, and TIER 1 nine times as long: best he ties tie 0 alone, as the second, and tie 4 comes
+     * when TIER 0 is free at 9 like him.
+     */
+    private void deepOrder() {
+        EndTooLong x = new EndTooLong();
+        for (int i = 0; i < 5; i++) {
+            x.tie(120, 5 - i);
+        }
+        x.mend(0, 8, 0);
+        x.tier(14, 55);
+        x.tier(94, 55);
+        tell(x, "t");
+        for (int i = 0; i < 5; i++) {
+            due(x.takes(0, 10 * i), i + 1);
+            due(x.takes(1, 10 * i), 9 * i + 9);
+        }
+        bytes(x, 0, 0, 1, 2, 3, 4);
+        due(x.order(0, 0, -1), 14);
+        int[] up = {1, 0, 2, 3, 4};
+        for (int k = 0; k < 5; k++) {
+            due(x.order(0, 0, k), up[k]);
+        }
+        bytes(x, 0, 4, 3, 2, 1, 0);
+        due(x.order(0, 0, -1), 14);
+        int[] down = {3, 0, 2, 1, 4};
+        for (int k = 0; k < 5; k++) {
+            due(x.order(0, 0, k), down[k]);
+        }
     }
 
     private void promise22() {
@@ -864,6 +945,7 @@ public final class PromisesTest {
         due(x.oneMore(0, 1, 0), 0);
         oneMoreOfSix();
         oneMoreThatHurts();
+        oneMoreOfOne();
     }
 
     private void oneMoreOfSix() {
@@ -876,6 +958,17 @@ public final class PromisesTest {
         due(x.six(0, 1, -1), 2);
         due(x.oneMore(0, 1, 5), 0);
         due(x.count(1), 6);
+    }
+
+    private void oneMoreOfOne() {
+        EndTooLong x = new EndTooLong();
+        x.tier(11, 63);
+        for (int i = 0; i < 6; i++) {
+            x.tie(150, 3);
+        }
+        bytes(x, 0, 0, 1, 2, 3, 4, 5);
+        due(x.six(0, 1, -1), 6);
+        due(x.oneMore(0, 1, 0), 3);
     }
 
     /** The third tie never hangs right: 60 minutes by TIER 0, 120 by one as TIER 1, who is free first. */
@@ -1023,7 +1116,7 @@ public final class PromisesTest {
         due(x.thickness(0, 1, 701), 3);
         shorts(x, 0, 34);
         due(x.thickness(0, 1, 701), 9);
-        shorts(x, 0, 33);
+        shorts(x, 0, 30);
         due(x.thickness(0, 1, 701), NOT);
         due(x.of(0, 1), 3);
         due(x.thickness(0, 1, 700), BAD);
@@ -1081,6 +1174,21 @@ public final class PromisesTest {
         due(x.drawn(11, 701, 5, 10), BAD);
         due(x.drawn(-1, 701, 5, 10), BAD);
         firstDraw();
+        sixtiethTry();
+    }
+
+    /** 1 up each try, whatever is drawn, and RIGHT at 66 alone: from 7 on that is the 60th try. */
+    private void sixtiethTry() {
+        EndTooLong x = new EndTooLong();
+        x.tie(104, 3);
+        x.mend(0, 7, 10);
+        tell(x, "b<57?b-9;b<66?b-5;56");
+        for (int seed = -3; seed < 4; seed++) {
+            due(x.drawn(0, 74, seed, 30), 180);
+            due(x.drawn(0, 74, seed, 31), 0);
+            due(x.drawn(0, 64, seed, 30), 180);
+            due(x.drawn(0, 64, seed, 31), 3);
+        }
     }
 
     /** SEED 0 draws 12345 first: 12345 >>> 8 is 48, and 48 % 3 less 1 is -1: the KNOT takes one less. */
@@ -1327,6 +1435,8 @@ public final class PromisesTest {
         acted(x, 5, 3, 10, (-32 - 12) ^ 5, 60, 2, 41, 30, 10, 1, 40, 11);
         acted(x, 6, 0, 10, 32, 70, 1);
         acted(x, 6, 1, 10, 64, 10, 70, 1);
+        acted(x, 6, 2, 10, 12, 11);
+        acted(x, 6, 3, 10, 64 - 7, 2, 10, 70, 1, 11);
         acted(x, 7, 1, 10, 40 + (5 - 12), 80, 10, 20, 1, 50, 11, 20, 1);
         acted(x, 7, 3, 10, 33 - (6 - 12) - 1, 81, 2, 80, 10, 20, 1, 50, 11, 20, 1, 50, 11, 20, 1);
         acted(x, 49, 0, MOST, LEAST + 48 + 3, 20, 1);
