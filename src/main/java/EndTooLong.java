@@ -429,8 +429,7 @@ public final class EndTooLong {
             return BAD;
         }
         int often = numbers.read(TIED, tie);
-        // A tie that nobody tied cannot be undone, so it is not led as one.
-        ledger.undone += often > 0 ? 1 : 0;
+        ledger.undone++;
         numbers.write(TIED, tie, 0);
         return often;
     }
@@ -1221,14 +1220,16 @@ public final class EndTooLong {
         private final int[] free = new int[WORKERS];
         int many;
 
+        /** The first element that names no tie that is there, or one named before, ends the ties of a row. */
         void gather(Shelf told, int tiesThere) {
             many = 0;
-            for (int i = 0; i < told.size && many < MOST_DRESSED; i++) {
-                int tie = (int) told.read(i);
-                if (tie >= 0 && tie < tiesThere && !isGathered(tie)) {
-                    ties[many] = tie;
-                    many++;
+            while (many < told.size && many < MOST_DRESSED) {
+                int tie = (int) told.read(many);
+                if (tie < 0 || tie >= tiesThere || isGathered(tie)) {
+                    return;
                 }
+                ties[many] = tie;
+                many++;
             }
         }
 

@@ -482,8 +482,8 @@ final class Model {
         want(within(shelf, 0, 5) && within(knot, 0, 4) && good, BAD);
         LinkedHashSet<Integer> found = new LinkedHashSet<>();
         for (long e : rowOf(shelf, 0).elements) {
-            if (e >= 0 && e < ties.size() && found.size() < 6) {
-                found.add((int) e);
+            if (e < 0 || e >= ties.size() || found.size() == 6 || !found.add((int) e)) {
+                break;
             }
         }
         return new ArrayList<>(found);
@@ -654,9 +654,7 @@ final class Model {
         want(within(tie, 0, ties.size() - 1), BAD);
         Tie t = ties.get(tie);
         int often = t.often;
-        if (often != 0) {
-            led[2]++;
-        }
+        led[2]++;
         t.often = 0;
         return often;
     }

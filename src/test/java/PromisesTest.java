@@ -799,16 +799,27 @@ public final class PromisesTest {
         due(x.six(0, 1, 3), NOT);
         due(x.six(0, 1, MOST), NOT);
         due(x.six(0, 1, -2), BAD);
-        // What is no tie is passed over, and each tie counts once.
-        bytes(x, 0, -1, 1, 3, 1, 100, 0);
-        due(x.six(0, 1, -1), 3);
+        // What is no tie that is there, and one that comes again, ends the ties of the row.
+        for (int end : new int[] {-1, 3, 100, -128, 1, 0}) {
+            bytes(x, 0, 1, 0, end, 2);
+            due(x.six(0, 1, -1), 3);
+            due(x.six(0, 1, 1), 1);
+            due(x.six(0, 1, 2), NOT);
+        }
+        bytes(x, 0, 3, 0, 1);
+        due(x.six(0, 1, -1), 0);
+        due(x.six(0, 1, 0), NOT);
+        // It is there as soon as it has come, and the row goes on.
+        bytes(x, 0, 0, 3, 1);
+        due(x.six(0, 1, 1), NOT);
+        x.tie(150, 3);
         due(x.six(0, 1, 1), 1);
-        due(x.six(0, 1, 2), NOT);
+        due(x.six(0, 1, 2), 0);
         // Of like ones the least: both are free at 6.
         bytes(x, 0, 0, 1, 2);
         x.mend(1, 9, 2);
         due(x.six(0, 1, 2), 0);
-        for (int i = 3; i < 8; i++) {
+        for (int i = 4; i < 8; i++) {
             x.tie(150, 3);
         }
         bytes(x, 0, 7, 6, 5, 4, 3, 2, 1, 0);
@@ -852,8 +863,18 @@ public final class PromisesTest {
         }
         bytes(x, 0, 0, 1, 2, 3, 4);
         due(x.order(0, 0, -1), 60);
-        bytes(x, 0, 0, 1, 2, 3, 4, 4);
+        // Behind what is not there, or comes again, no sixth one is of the row.
+        bytes(x, 0, 0, 1, 2, 3, 4, 4, 5);
         due(x.order(0, 0, -1), 60);
+        bytes(x, 0, 0, 1, 2, 3, 4, 6, 5);
+        due(x.order(0, 0, -1), 60);
+        bytes(x, 0, 0, 1, 7, 2);
+        due(x.order(0, 0, -1), 1);
+        due(x.order(0, 0, 2), NOT);
+        bytes(x, 0, 1, 0, 1, 2);
+        due(x.order(0, 0, 0), 1);
+        due(x.order(0, 0, 1), 0);
+        due(x.order(0, 0, 2), NOT);
         bytes(x, 0, 0, 1, 2, 3, 4, 5);
         due(x.order(0, 0, -1), STATE);
         due(x.order(0, 0, 9), STATE);
@@ -918,6 +939,12 @@ public final class PromisesTest {
         due(x.taxi(0, 1, 59), 2);
         due(x.taxi(0, 1, 60), 3);
         due(x.taxi(0, 1, 9999), 3);
+        bytes(x, 0, 1, 3, 2, 0);
+        due(x.taxi(0, 1, 9999), 1);
+        bytes(x, 0, 1, 2, 1, 0);
+        due(x.taxi(0, 1, 9999), 2);
+        bytes(x, 0, 9, 1, 2);
+        due(x.taxi(0, 1, 9999), 0);
         due(x.taxi(0, 1, 10000), BAD);
         due(x.taxi(0, 1, -1), BAD);
     }
@@ -940,6 +967,10 @@ public final class PromisesTest {
         x.tie(150, 3);
         bytes(x, 0, 0, 1, 2);
         due(x.oneMore(0, 1, 0), 2);
+        bytes(x, 0, 0, 1, 0, 2);
+        due(x.oneMore(0, 1, 0), 0);
+        bytes(x, 0, 0, 1, 3, 2);
+        due(x.oneMore(0, 1, 0), 0);
         int[] none = {};
         bytes(x, 0, none);
         due(x.oneMore(0, 1, 0), 0);
@@ -1264,24 +1295,28 @@ public final class PromisesTest {
         due(x.led(-1), BAD);
         due(x.led(4), BAD);
         due(x.led(3), VOID);
-        x.untie(0);
         due(x.led(2), 0);
+        x.untie(1);
+        due(x.led(2), 0);
+        // A tie that is there is undone, whether or not it was tied.
+        x.untie(0);
+        due(x.led(2), 1);
         x.tieOn(1, 62);
         x.tieOn(1, 63);
         x.tieOn(1, 40);
         due(x.led(0), 3);
         due(x.led(1), 1);
-        due(x.led(2), 0);
+        due(x.led(2), 1);
         due(x.led(3), 28);
         x.untie(0);
         due(x.led(0), 3);
-        due(x.led(2), 1);
+        due(x.led(2), 2);
         x.untie(0);
-        due(x.led(2), 1);
+        due(x.led(2), 3);
         x.tieOn(1, 0);
         due(x.led(3), -12);
         x.untie(0);
-        due(x.led(2), 2);
+        due(x.led(2), 4);
     }
 
     private void promise32and33() {

@@ -1,3 +1,6 @@
+import java.util.ArrayList;
+import java.util.Collections;
+import java.util.List;
 import java.util.Random;
 
 /** Runs of 512 drawn calls (always the same ones) on EndTooLong and on Model: every answer must be the same. */
@@ -121,13 +124,19 @@ public final class RandomRunsTest {
         return calls + both("thickness", shelf, tk, 10 * from + share);
     }
 
+    /** A row of ties in some order; one that is not there or comes again, which ends it, is rare enough for long ones. */
     private int tellSix() {
+        List<Integer> order = new ArrayList<>(List.of(0, 1, 2, 3, 4, 5, 6, 7));
+        order.removeIf(tie -> tie >= model.call("count", new long[] {0}));
+        Collections.shuffle(order, random);
+        order.add(8);
         int n = random.nextInt(9);
         int shelf = random.nextInt(6);
         int knot = random.nextInt(5);
         int calls = both("row", shelf, 0, n);
         for (int i = 0; i < n; i++) {
-            calls += both("put", shelf, i, random.nextInt(11) - 1);
+            int next = order.get(Math.min(i, order.size() - 1));
+            calls += both("put", shelf, i, random.nextInt(10) == 0 ? random.nextInt(11) - 1 : next);
         }
         for (int k = -1; k < 7; k++) {
             calls += both("six", shelf, knot, k) + both("order", shelf, knot, k);
