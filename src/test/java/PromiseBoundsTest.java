@@ -38,6 +38,32 @@ public final class PromiseBoundsTest extends Bounds {
         due(y.of(0, 6), 38);
     }
 
+    @Sentence("An object is used for at most 512 calls after it has been made")
+    void lastOfAllCalls() {
+        EndTooLong x = one();
+        for (int i = 2; i < 512; i++) {
+            due("call " + i, x.tieOn(1, 63), 51 + Math.min(99, i - 2) / 10);
+        }
+        due(x.led(0), 510);
+        EndTooLong y = one();
+        for (int i = 2; i < 511; i++) {
+            due("call " + i, y.mend(0, 4, i % 100), i == 2 ? 0 : (i - 1) % 100);
+        }
+        due(y.count(3), 40);
+        due(y.undo(), 39);
+        EndTooLong z = new EndTooLong();
+        for (int i = 1; i < 512; i++) {
+            due("call " + i, z.body(7), i <= 50 ? i - 1 : FULL);
+        }
+        due(z.act(49, 0, 1), 1 + 49 + 3);
+        EndTooLong tape = one();
+        for (int i = 2; i < 511; i++) {
+            due("call " + i, tape.feed(i % 2 == 0 ? 't' : '+'), i <= 121 ? i - 1 : FULL);
+        }
+        due(tape.count(2), 120);
+        due(tape.law(), -100 - 120);
+    }
+
     @Sentence("A tie: its number. BAD, FULL: 8.")
     void promise02() {
         EndTooLong x = new EndTooLong();
