@@ -317,6 +317,43 @@ public final class DeedBoundsTest extends Bounds {
         due(x.of(0, 4), 33);
     }
 
+    @Sentence("UNDONE, the latest first, and DONE AGAIN (as long as no other came behind); 40 at most are kept;")
+    void fortyOfUnlikeNumbersAreKept() {
+        EndTooLong x = new EndTooLong();
+        for (int tie = 0; tie < 8; tie++) {
+            x.tie(150, 3);
+        }
+        // LONG, SLIPS, STAIN, WORN of each of eight ties, all but the last one twice; the first 23 are kept no more.
+        for (int i = 0; i < 63; i++) {
+            due("change " + i, x.mend(i % 8, FOUR[i / 8 % 4], became(i)), was(i));
+        }
+        for (int i = 62; i >= 23; i--) {
+            due(x.of(i % 8, FOUR[i / 8 % 4]), became(i));
+            due(x.undo(), i - 23);
+            due("undone " + i, x.of(i % 8, FOUR[i / 8 % 4]), was(i));
+        }
+        due(x.undo(), STATE);
+        for (int i = 0; i < 23; i++) {
+            due("kept no more: " + i, x.of(i % 8, FOUR[i / 8 % 4]), became(i));
+        }
+        for (int i = 23; i < 63; i++) {
+            due(x.redo(), 62 - i);
+            due("done again " + i, x.of(i % 8, FOUR[i / 8 % 4]), became(i));
+        }
+        due(x.redo(), STATE);
+    }
+
+    private static final int[] FOUR = {0, 2, 3, 4};
+
+    private static int became(int change) {
+        return (change / 8 % 4 == 0 ? 101 : 1) + change / 32;
+    }
+
+    private static int was(int change) {
+        int[] first = {150, 0, 200, 0};
+        return change < 32 ? first[change / 8] : became(change - 32);
+    }
+
     @Sentence("deeds are none.")
     void deedsAreNoChanges() {
         EndTooLong x = mended();

@@ -86,6 +86,11 @@ public final class LawBoundsTest extends Bounds {
         fault("(1?2)", 2);
         fault("1?(2?3)", 4);
         isLaw("1?2;3?4");
+        // Both are E, from the least binding sign on.
+        gives("0|1?0|5", 1);
+        gives("1&1?5&1", 1);
+        gives("1?0|0;9", 0);
+        gives("2<1?9;3>2?2>1;9", 1);
     }
 
     @Sentence("E = A { | A }. A = B { & B }.")

@@ -212,6 +212,15 @@ public final class PromiseBoundsTest extends Bounds {
         due(tell(x, "+"), -100);
         due(tell(x, "9"), 1);
         due(x.hangs(1, 63, 3), 9);
+        // Nothing is left of a longer one ahead of it, nor of a longer fault.
+        due(tell(x, "9;8;7;6"), 1);
+        due(x.hangs(1, 63, 3), 9);
+        due(tell(x, "0?5"), 1);
+        due(x.hangs(1, 63, 3), 0);
+        due(tell(x, "0?5;0?6;7;8;9;"), -114);
+        due(x.hangs(1, 63, 3), 0);
+        due(tell(x, "0?1"), 1);
+        due(x.hangs(1, 63, 3), 0);
         for (int i = 0; i < 120; i++) {
             x.feed('(');
         }

@@ -66,6 +66,10 @@ public final class ThoughtBoundsTest extends Bounds {
         }
         tell(x, "k<3?60;b");
         due(x.knot(0, 0), NOT);
+        // There is no KNOT without TURNS behind the last one.
+        tell(x, "k?60;0");
+        due(x.knot(0, 0), NOT);
+        due(x.knot(0, 1), NOT);
         x.mend(0, 0, 40);
         tell(x, "0");
         due(x.knot(0, 0), NOT);
@@ -220,6 +224,12 @@ public final class ThoughtBoundsTest extends Bounds {
         due(x.share(0, 62), 2);
         tell(x, "b=62?0;b=57?0;60");
         due(x.share(0, 62), NOT);
+        // From 110 a SHARE of 5 would be RIGHT at 98 in the second try; 4 is in the third, and no other ever is.
+        x.mend(0, 8, 0);
+        x.mend(0, 0, 150);
+        tell(x, "b=110?0;b=98?48;60");
+        due(x.correct(0, 1104, 0), 3);
+        due(x.share(0, 110), 4);
         // In the 60th try by each of them, and one too many.
         EndTooLong y = one();
         y.mend(0, 7, 10);

@@ -292,7 +292,34 @@ public final class TiersBoundsTest extends Bounds {
         ordered(x, 1, 0, 4, 1, 2, 3);
     }
 
-    /** The best order is the very last one: any other one is done later. */
+    /** Each of the 120 orders of five ties is the best one once: tie after tie to the TIER that has it right at once. */
+    @Sentence("of all orders of the ties of a ROW that in which it is done first (5 ties at most")
+    void eachOfAllOrdersIsTried() {
+        int[] row = {3, 0, 4, 1, 2};
+        for (int code = 0; code < 5 * 5 * 5 * 5 * 5; code++) {
+            int[] order = {code / 625, code / 125 % 5, code / 25 % 5, code / 5 % 5, code % 5};
+            if (java.util.Arrays.stream(order).distinct().count() == 5) {
+                onlyBest(row, order);
+            }
+        }
+    }
+
+    private void onlyBest(int[] row, int[] order) {
+        EndTooLong x = new EndTooLong();
+        for (int thick = 1; thick <= 5; thick++) {
+            x.tie(120, thick);
+        }
+        x.mend(0, 8, 0);
+        // A tie of THICK t is RIGHT at 50 + t alone.
+        tell(x, "b=50+t?t;60");
+        for (int tie : order) {
+            x.tier(11, 50 + tie + 1);
+        }
+        bytes(x, 0, row);
+        due(x.order(0, 0, -1), 1);
+        ordered(x, 0, order);
+    }
+
     @Sentence("of all orders of the ties of a ROW")
     void orderIsSoughtToTheEnd() {
         EndTooLong x = new EndTooLong();
@@ -430,6 +457,12 @@ public final class TiersBoundsTest extends Bounds {
         due(x.judge(0, 1, 701), 3);
         shorts(x, 0, 51, 51);
         due(x.judge(0, 1, 631), 1);
+        // Nor what would be if it were corrected all the same.
+        shorts(x, 0, 51, 50);
+        due(x.judge(0, 1, 631), 1);
+        due(x.which(0, 0, 631), 0);
+        due(x.began(0, 1, 1), NOT);
+        due(x.thickness(0, 1, 631), NOT);
         shorts(x, 0, 57, 50, 51);
         due(x.judge(0, 1, 701), 0);
         shorts(x, 0, 58, 49, 51);
@@ -515,6 +548,14 @@ public final class TiersBoundsTest extends Bounds {
         due(x.thickness(0, 1, 701), NOT);
         shorts(x, 0, 30);
         due(x.thickness(0, 1, 701), NOT);
+        // From 70 by each SHARE: of THICK 2 BROAD is 62, then 12, 6, 4, 3 less.
+        int[] less = {12, 6, 4, 3};
+        for (int share = 1; share <= 4; share++) {
+            shorts(x, 0, 62, 62 - less[share - 1]);
+            for (int other = 1; other <= 4; other++) {
+                due("SHARE " + other, x.thickness(0, 1, 700 + other), other == share ? 2 : NOT);
+            }
+        }
         // Of 6, 7, 8 the least.
         tell(x, "t/3+t/9");
         shorts(x, 0, 68);

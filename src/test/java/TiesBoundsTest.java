@@ -175,6 +175,54 @@ public final class TiesBoundsTest extends Bounds {
         }
     }
 
+    @Sentence("(tk: 10 times the tie, and the KNOT; bs: 10 times b, and the SHARE).")
+    void eachTieInEachKnot() {
+        EndTooLong x = new EndTooLong();
+        for (int tie = 0; tie < 8; tie++) {
+            x.tie(100 + tie, 1 + tie);
+        }
+        int[] often = new int[8];
+        for (int tk = -1; tk <= 90; tk++) {
+            int tie = tk / 10;
+            int knot = tk % 10;
+            boolean isThere = tk >= 0 && tie < 8 && knot < 5;
+            int takes = (1 + tie) * (2 * knot + 2);
+            due("tk " + tk, x.hangs(tk, 150, 3), isThere ? takes : VOID);
+            due("tk " + tk, x.hangs(tk, 40, 1), isThere ? 100 + tie - 78 : VOID);
+            due("tk " + tk, x.tieOn(tk, 150), isThere ? 150 - takes : VOID);
+            if (isThere) {
+                often[tie]++;
+                due(x.of(tie, 12), often[tie]);
+                due(x.of(tie, 4), often[tie]);
+            }
+        }
+        due(x.led(0), 40);
+    }
+
+    @Sentence("bs: 10 times b, and the SHARE).")
+    void eachBeginningByEachShare() {
+        for (int b = 0; b <= 200; b++) {
+            // It never hangs right: a second try always comes.
+            EndTooLong x = new EndTooLong();
+            x.tie(40, 3);
+            for (int share = 1; share <= 4; share++) {
+                int broad = b - 12;
+                int step = (50 - broad) / share;
+                int next = broad + (step != 0 ? step : broad > 50 ? -1 : 1);
+                shorts(x, 0, broad, next);
+                due("b " + b + ", SHARE " + share, x.judge(0, 1, 10 * b + share), NOT);
+                due("b " + b + ", SHARE " + share, x.which(0, 0, 10 * b + share), 2);
+                due("b " + b + ", SHARE " + share, x.began(0, 1, share), b);
+                due("b " + b + ", SHARE " + share, x.thickness(0, 1, 10 * b + share), 3);
+                due("b " + b + ", SHARE " + share, x.correct(1, 10 * b + share, 0), NOT);
+            }
+            for (int share : new int[] {0, 5, 9}) {
+                due("b " + b + ", SHARE " + share, x.judge(0, 1, 10 * b + share), BAD);
+                due("b " + b + ", SHARE " + share, x.correct(1, 10 * b + share, 0), BAD);
+            }
+        }
+    }
+
     // ---- what a KNOT takes without a text
 
     @Sentence("Without a text: t times k, and t, less s, less w by 10 (cut); 0 at least.")
