@@ -387,21 +387,54 @@ public final class DeedBoundsTest extends Bounds {
         due(x.of(0, 4), 50);
     }
 
-    @Sentence({"UNDONE: how many may still be. STATE: none.", "DONE AGAIN: how many may still be. STATE: none."})
+    @Sentence("UNDONE: how many may still be. STATE: none.")
     void noneToBeUndone() {
         EndTooLong x = one();
         due(x.undo(), STATE);
-        due(x.redo(), STATE);
         due(x.count(3), 0);
+        // What is the same, or refused, is none.
+        x.mend(0, 0, 150);
+        x.mend(0, 0, 39);
+        due(x.undo(), STATE);
+        x.mend(0, 0, 100);
+        x.mend(0, 0, 101);
+        due(x.undo(), 1);
+        due(x.undo(), 0);
+        due(x.undo(), STATE);
+        due(x.of(0, 0), 150);
+        due(x.count(3), 0);
+        due(x.redo(), 1);
+        due(x.undo(), 0);
+        due(x.undo(), STATE);
+    }
+
+    @Sentence("DONE AGAIN: how many may still be. STATE: none.")
+    void noneToBeDoneAgain() {
+        EndTooLong x = one();
+        due(x.redo(), STATE);
+        due(x.undo(), STATE);
+        due(x.redo(), STATE);
         x.mend(0, 0, 100);
         due(x.redo(), STATE);
         due(x.of(0, 0), 100);
         due(x.undo(), 0);
-        due(x.undo(), STATE);
-        due(x.of(0, 0), 150);
         due(x.redo(), 0);
         due(x.redo(), STATE);
         due(x.of(0, 0), 100);
+        due(x.count(3), 1);
+        // All forty.
+        for (int i = 1; i <= 39; i++) {
+            x.mend(0, 4, i);
+        }
+        due(x.redo(), STATE);
+        for (int i = 39; i >= 0; i--) {
+            due(x.undo(), i);
+        }
+        for (int i = 39; i >= 0; i--) {
+            due(x.redo(), i);
+        }
+        due(x.redo(), STATE);
+        due(x.of(0, 4), 39);
     }
 
     // ---- AN IMAGE

@@ -448,42 +448,35 @@ public final class PromiseBoundsTest extends Bounds {
 
     // ---- tries read back, in deed
 
-    /** What each of the four calls that read tries back answers of a SHELF: 0 is what they say of an empty row. */
-    private void triesOf(EndTooLong x, int shelf, int want) {
-        due(x.judge(shelf, 1, 631), want == 0 ? NOT : want);
-        due(x.which(shelf, 0, 631), want == 0 ? 31 : want);
-        due(x.began(shelf, 1, 1), want);
-        due(x.thickness(shelf, 1, 631), want == 0 ? 1 : want);
+    private interface OfShelf {
+        int answer(EndTooLong x, int shelf);
     }
 
-    @Sentence({"BAD, -11, -12 (no ROW of shorts); NOT.", "WHICH KNOT: bits. BAD, -11, -12.",
-        "BEGAN. BAD, -11, -12; NOT.", "THICKNESS. BAD, -11, -12; NOT."})
-    void rowsOfTriesThatAreNone() {
+    /** A call that reads tries from a SHELF, of what is no ROW of shorts; and wrong ones, which are BAD whatever it holds. */
+    private void ofNoShorts(int ofAnEmptyRow, OfShelf right, OfShelf... wrong) {
         EndTooLong x = one();
         x.body(0);
-        for (int shelf : outside(0, 5)) {
-            triesOf(x, shelf, BAD);
-        }
         for (int content = -2; content <= 4; content++) {
             if (content >= 0) {
                 x.row(0, content, 0);
             } else {
                 x.keep(0, content == -2 ? -1 : 0);
             }
-            triesOf(x, 0, content == -2 ? NOTHING_THERE : content == 1 ? 0 : OTHER_KIND);
-            due(x.judge(0, 5, 631), BAD);
-            due(x.judge(0, 1, 630), BAD);
-            due(x.which(0, 1, 631), BAD);
-            due(x.which(0, 0, 635), BAD);
-            due(x.began(0, 10, 1), BAD);
-            due(x.began(0, 1, 5), BAD);
-            due(x.thickness(0, -1, 631), BAD);
-            due(x.thickness(0, 1, 2011), BAD);
+            int due = content == -2 ? NOTHING_THERE : content == 1 ? ofAnEmptyRow : OTHER_KIND;
+            due("content " + content, right.answer(x, 0), due);
+            for (int shelf : outside(0, 5)) {
+                due("shelf " + shelf, right.answer(x, shelf), BAD);
+            }
+            for (int i = 0; i < wrong.length; i++) {
+                due("content " + content + ", wrong one " + i, wrong[i].answer(x, 0), BAD);
+            }
         }
     }
 
     @Sentence("JUDGED. BAD, -11, -12 (no ROW of shorts); NOT.")
     void promise24() {
+        ofNoShorts(NOT, (x, shelf) -> x.judge(shelf, 1, 631),
+            (x, shelf) -> x.judge(shelf, 5, 631), (x, shelf) -> x.judge(shelf, 1, 630));
         EndTooLong x = one();
         shorts(x, 0, 51);
         for (int tk : NO_TIE_IN_KNOT) {
@@ -496,8 +489,10 @@ public final class PromiseBoundsTest extends Bounds {
         due(x.judge(0, 0, 631), 0);
     }
 
-    @Sentence("WHICH KNOT: bits.")
+    @Sentence("WHICH KNOT: bits. BAD, -11, -12.")
     void promise25() {
+        ofNoShorts(31, (x, shelf) -> x.which(shelf, 0, 631),
+            (x, shelf) -> x.which(shelf, 1, 631), (x, shelf) -> x.which(shelf, 0, 635));
         EndTooLong x = one();
         shorts(x, 0, 51);
         for (int tie : NO_TIE) {
@@ -510,8 +505,10 @@ public final class PromiseBoundsTest extends Bounds {
         due(x.which(0, 0, 641), 0);
     }
 
-    @Sentence("BEGAN. BAD")
+    @Sentence("BEGAN. BAD, -11, -12; NOT.")
     void promise26() {
+        ofNoShorts(0, (x, shelf) -> x.began(shelf, 1, 1),
+            (x, shelf) -> x.began(shelf, 10, 1), (x, shelf) -> x.began(shelf, 1, 5));
         EndTooLong x = one();
         shorts(x, 0, 51);
         for (int tk : NO_TIE_IN_KNOT) {
@@ -526,8 +523,10 @@ public final class PromiseBoundsTest extends Bounds {
         due(x.began(0, 1, 1), NOT);
     }
 
-    @Sentence("THICKNESS. BAD")
+    @Sentence("THICKNESS. BAD, -11, -12; NOT.")
     void promise27() {
+        ofNoShorts(1, (x, shelf) -> x.thickness(shelf, 1, 631),
+            (x, shelf) -> x.thickness(shelf, -1, 631), (x, shelf) -> x.thickness(shelf, 1, 2011));
         EndTooLong x = one();
         shorts(x, 0, 51);
         for (int tk : NO_TIE_IN_KNOT) {
@@ -624,27 +623,48 @@ public final class PromiseBoundsTest extends Bounds {
         due(x.put(0, 59, 1), 1);
     }
 
-    @Sentence({"Element i of a ROW becomes v: 1. BAD, -11, -12, -13.", "Element i of a ROW; Long.MIN_VALUE: BAD, -11 to -13."})
-    void promises41and42() {
+    /** SHELF 0 holds nothing, 1 a TURN, 2 a ROW of two, 3 a ROW of none. */
+    private static EndTooLong shelved() {
         EndTooLong x = new EndTooLong();
         x.body(0);
         x.keep(1, 0);
         x.row(2, 3, 2);
         x.row(3, 3, 0);
-        for (int i : new int[] {-1, 0, 1, 2, 60, LEAST, MOST}) {
+        return x;
+    }
+
+    private static final int[] PLACES = {-1, 0, 1, 2, 60, LEAST, MOST};
+
+    @Sentence("Element i of a ROW becomes v: 1. BAD, -11, -12, -13.")
+    void promise41() {
+        EndTooLong x = shelved();
+        for (int i : PLACES) {
             for (int shelf : outside(0, 5)) {
-                due(x.put(shelf, i, 7), BAD);
-                due(x.element(shelf, i), Long.MIN_VALUE);
+                due("place " + i, x.put(shelf, i, 7), BAD);
             }
-            due(x.put(0, i, 7), NOTHING_THERE);
-            due(x.element(0, i), Long.MIN_VALUE);
-            due(x.put(1, i, 7), OTHER_KIND);
-            due(x.element(1, i), Long.MIN_VALUE);
-            boolean isThere = i == 0 || i == 1;
-            due(x.put(2, i, 7), isThere ? 1 : NO_PLACE);
-            due(x.element(2, i), isThere ? 7 : Long.MIN_VALUE);
-            due(x.put(3, i, 7), NO_PLACE);
-            due(x.element(3, i), Long.MIN_VALUE);
+            due("place " + i, x.put(0, i, 7), NOTHING_THERE);
+            due("place " + i, x.put(1, i, 7), OTHER_KIND);
+            due("place " + i, x.put(2, i, 7 + i), i == 0 || i == 1 ? 1 : NO_PLACE);
+            due("place " + i, x.put(3, i, 7), NO_PLACE);
+        }
+        due(x.element(2, 0), 7);
+        due(x.element(2, 1), 8);
+        due(x.taken(1, 0), 0);
+    }
+
+    @Sentence("Element i of a ROW; Long.MIN_VALUE: BAD, -11 to -13.")
+    void promise42() {
+        EndTooLong x = shelved();
+        x.put(2, 0, 7);
+        x.put(2, 1, 8);
+        for (int i : PLACES) {
+            for (int shelf : outside(0, 5)) {
+                due("place " + i, x.element(shelf, i), Long.MIN_VALUE);
+            }
+            due("place " + i, x.element(0, i), Long.MIN_VALUE);
+            due("place " + i, x.element(1, i), Long.MIN_VALUE);
+            due("place " + i, x.element(2, i), i == 0 || i == 1 ? 7 + i : Long.MIN_VALUE);
+            due("place " + i, x.element(3, i), Long.MIN_VALUE);
         }
         // A long may be the least one itself.
         due(x.put(2, 0, Long.MIN_VALUE), 1);

@@ -360,15 +360,14 @@ public final class ThoughtBoundsTest extends Bounds {
     @Sentence({"FIT: the least NECK (20 .. 60) with which a tie HANGS RIGHT by some b in a KNOT, the greatest; NOT.",
         "the least NECK (20 .. 60)"})
     void fitsNecks() {
-        EndTooLong x = bare(110);
         for (int neck = 20; neck <= 60; neck++) {
-            tell(x, "n=" + neck + "?0;60");
-            x.mend(0, 0, 50 + neck);
-            due("NECK " + neck + " alone", x.fit(0, 0), neck);
-            due("NECK " + neck + " alone", x.fit(0, 1), neck);
+            EndTooLong alone = bare(50 + neck);
+            tell(alone, "n=" + neck + "?0;60");
+            due("NECK " + neck + " alone", alone.fit(0, 0), neck);
+            due("NECK " + neck + " alone", alone.fit(0, 1), neck);
+            due(alone.of(0, 6), 38);
         }
-        due(x.of(0, 6), 38);
-        x.mend(0, 0, 120);
+        EndTooLong x = bare(120);
         tell(x, "n=20|n=60?0;60");
         due(x.fit(0, 0), 20);
         due(x.fit(0, 1), 60);

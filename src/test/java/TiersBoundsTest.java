@@ -155,16 +155,18 @@ public final class TiersBoundsTest extends Bounds {
         due(x.six(0, 1, -1), 2);
         // What is no tie, or one again, ends it, at whichever place.
         for (int end : new int[] {8, 127, 128, 200, 255, -1, -128, 7, 6, 0}) {
+            EndTooLong y = alike(8);
+            y.tier(21, 63);
             for (int at = 0; at <= 4; at++) {
                 int[] row = {7, 6, 5, 4, 3};
                 row[at] = end;
-                bytes(x, 0, row);
+                bytes(y, 0, row);
                 int many = tiesOf(row);
-                due("row with " + end + " at " + at, x.six(0, 1, -1), 2 * many);
-                due(x.six(0, 1, many), NOT);
-                due(x.taxi(0, 1, 9999), many);
-                due(x.order(0, 1, -1), 2 * many);
-                due(x.oneMore(0, 1, 0), 2 * many - 2 * ((many + 1) / 2));
+                due("row with " + end + " at " + at, y.six(0, 1, -1), 2 * many);
+                due(y.six(0, 1, many), NOT);
+                due(y.taxi(0, 1, 9999), many);
+                due(y.order(0, 1, -1), 2 * many);
+                due(y.oneMore(0, 1, 0), 2 * many - 2 * ((many + 1) / 2));
             }
         }
         // A seventh and an eighth are not of it, and take no minute.

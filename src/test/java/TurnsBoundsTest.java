@@ -228,8 +228,8 @@ public final class TurnsBoundsTest extends Bounds {
 
     @Sentence("of 0 bytes, 1 shorts, 2 ints, 3 longs, 4 booleans, of 0 .. 60 elements, 0 at first (false);")
     void rowsOfSixtyAtMost() {
-        EndTooLong x = new EndTooLong();
         for (int sort = 0; sort <= 4; sort++) {
+            EndTooLong x = new EndTooLong();
             for (int n : new int[] {0, 1, 59, 60}) {
                 due(x.row(0, sort, n), 1);
                 for (int i = 0; i < n; i++) {
