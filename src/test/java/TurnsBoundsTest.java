@@ -242,6 +242,11 @@ public final class TurnsBoundsTest extends Bounds {
                     due(x.element(0, i), Long.MIN_VALUE);
                 }
             }
+            for (int n : new int[] {61, MOST}) {
+                due(x.row(0, sort, n), BAD);
+            }
+            due(x.row(0, sort, -1), SIZE_BELOW_ZERO);
+            due(x.element(0, 59), 1);
             // A new ROW is of noughts, whatever stood there.
             x.put(0, 30, -1);
             due(x.row(0, sort, 60), 1);
